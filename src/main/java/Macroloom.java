@@ -49,6 +49,8 @@ public final class Macroloom {
     private final Program program;
     private final World world;
     private final Report last;
+    /** Told by tried() and triedSteps() alone. */
+    private final Report draft;
     private int budget;
     /** Made by the first run only, so that an object that never runs stays small. */
     private Machine machine;
@@ -57,10 +59,11 @@ public final class Macroloom {
         program = new Program();
         world = new World();
         last = new Report();
+        draft = new Report();
         budget = FIRST_BUDGET;
     }
 
-    public int node(int kind, int a, int b, int c) {
+    public int node(int kind, int a, int b, int c) throws IndexOutOfBoundsException, IllegalArgumentException, IllegalStateException {
         if (program.lacksPart(kind, a, b, c)) {
             throw new IndexOutOfBoundsException("no such node");
         }
@@ -73,7 +76,7 @@ public final class Macroloom {
         return program.add(kind, a, b, c);
     }
 
-    public int define(int slot, int parameters, int body, int standard) {
+    public int define(int slot, int parameters, int body, int standard) throws IndexOutOfBoundsException, IllegalArgumentException, IllegalStateException {
         if (!isBelow(slot, SLOTS) || !program.has(body) || (standard != NONE && !program.has(standard))) {
             throw new IndexOutOfBoundsException("no such slot or node");
         }
@@ -90,14 +93,14 @@ public final class Macroloom {
         return before;
     }
 
-    public int size(int node) {
+    public int size(int node) throws IndexOutOfBoundsException {
         if (!program.has(node)) {
             throw new IndexOutOfBoundsException("no such node");
         }
         return program.sizes.at(node);
     }
 
-    public int setOption(int option, int value) {
+    public int setOption(int option, int value) throws IndexOutOfBoundsException, IllegalArgumentException, IllegalStateException {
         if (!isBelow(option, OPTIONS)) {
             throw new IndexOutOfBoundsException("no such option");
         }
@@ -112,7 +115,7 @@ public final class Macroloom {
         return before;
     }
 
-    public int setBudget(int steps) {
+    public int setBudget(int steps) throws IllegalArgumentException {
         if (!isAmount(steps)) {
             throw new IllegalArgumentException("steps is out of range");
         }
@@ -121,7 +124,7 @@ public final class Macroloom {
         return before;
     }
 
-    public int write(int buffer, int letter) {
+    public int write(int buffer, int letter) throws IndexOutOfBoundsException, IllegalArgumentException, IllegalStateException {
         if (!isBelow(buffer, BUFFERS)) {
             throw new IndexOutOfBoundsException("no such buffer");
         }
@@ -136,7 +139,7 @@ public final class Macroloom {
         return text.count;
     }
 
-    public int run(int node) {
+    public int run(int node) throws IndexOutOfBoundsException, IllegalStateException {
         if (!program.has(node)) {
             throw new IndexOutOfBoundsException("no such node");
         }
@@ -149,7 +152,7 @@ public final class Macroloom {
         return last.told;
     }
 
-    public int tried(int node) {
+    public int tried(int node) throws IndexOutOfBoundsException, IllegalStateException {
         if (!program.has(node)) {
             throw new IndexOutOfBoundsException("no such node");
         }
@@ -159,7 +162,7 @@ public final class Macroloom {
         return tryOut(node).told;
     }
 
-    public int triedSteps(int node) {
+    public int triedSteps(int node) throws IndexOutOfBoundsException, IllegalStateException {
         if (!program.has(node)) {
             throw new IndexOutOfBoundsException("no such node");
         }
@@ -169,7 +172,7 @@ public final class Macroloom {
         return tryOut(node).cost;
     }
 
-    public void start(int node) {
+    public void start(int node) throws IndexOutOfBoundsException, IllegalStateException {
         if (!program.has(node)) {
             throw new IndexOutOfBoundsException("no such node");
         }
@@ -179,7 +182,7 @@ public final class Macroloom {
         readyMachine().open(node, budget, last);
     }
 
-    public int step(int steps) {
+    public int step(int steps) throws IllegalArgumentException, IllegalStateException {
         if (!isAmount(steps)) {
             throw new IllegalArgumentException("steps is out of range");
         }
@@ -190,7 +193,7 @@ public final class Macroloom {
         return stepped.advance(steps, true);
     }
 
-    public int giveUp() {
+    public int giveUp() throws IllegalStateException {
         Machine stepped = steppedMachine();
         if (stepped == null) {
             throw new IllegalStateException("no run is stepped");
@@ -198,7 +201,7 @@ public final class Macroloom {
         return stepped.abandon();
     }
 
-    public boolean breakAt(int node, boolean on) {
+    public boolean breakAt(int node, boolean on) throws IndexOutOfBoundsException {
         if (!program.has(node)) {
             throw new IndexOutOfBoundsException("no such node");
         }
@@ -212,7 +215,7 @@ public final class Macroloom {
         return stepped == null ? NONE : stepped.waitingNode();
     }
 
-    public int look(int name) {
+    public int look(int name) throws IndexOutOfBoundsException, IllegalStateException {
         if (!isBelow(name, NAMES)) {
             throw new IndexOutOfBoundsException("no such name");
         }
@@ -244,7 +247,7 @@ public final class Macroloom {
         return last.count;
     }
 
-    public int traceAt(int place) {
+    public int traceAt(int place) throws IndexOutOfBoundsException {
         if (!isBelow(place, last.count)) {
             throw new IndexOutOfBoundsException("no such place");
         }
@@ -255,49 +258,49 @@ public final class Macroloom {
         return world.current;
     }
 
-    public int length(int buffer) {
+    public int length(int buffer) throws IndexOutOfBoundsException {
         if (!isBelow(buffer, BUFFERS)) {
             throw new IndexOutOfBoundsException("no such buffer");
         }
         return world.textOf(buffer).count;
     }
 
-    public int letter(int buffer, int place) {
+    public int letter(int buffer, int place) throws IndexOutOfBoundsException {
         if (!isBelow(buffer, BUFFERS) || !isBelow(place, world.textOf(buffer).count)) {
             throw new IndexOutOfBoundsException("no such buffer or place");
         }
         return world.textOf(buffer).letters.at(place);
     }
 
-    public int cursor(int buffer, int cursor) {
+    public int cursor(int buffer, int cursor) throws IndexOutOfBoundsException {
         if (!isBelow(buffer, BUFFERS) || !isBelow(cursor, CURSORS)) {
             throw new IndexOutOfBoundsException("no such buffer or cursor");
         }
         return world.textOf(buffer).places.at(cursor);
     }
 
-    public int activeCursor(int buffer) {
+    public int activeCursor(int buffer) throws IndexOutOfBoundsException {
         if (!isBelow(buffer, BUFFERS)) {
             throw new IndexOutOfBoundsException("no such buffer");
         }
         return world.textOf(buffer).chosen;
     }
 
-    public int option(int option) {
+    public int option(int option) throws IndexOutOfBoundsException {
         if (!isBelow(option, OPTIONS)) {
             throw new IndexOutOfBoundsException("no such option");
         }
         return world.options.at(option);
     }
 
-    public int register(int register) {
+    public int register(int register) throws IndexOutOfBoundsException {
         if (!isBelow(register, REGISTERS)) {
             throw new IndexOutOfBoundsException("no such register");
         }
         return world.registers.at(register);
     }
 
-    public int body(int slot) {
+    public int body(int slot) throws IndexOutOfBoundsException {
         if (!isBelow(slot, SLOTS)) {
             throw new IndexOutOfBoundsException("no such slot");
         }
@@ -318,7 +321,7 @@ public final class Macroloom {
 
     private Machine readyMachine() {
         if (machine == null) {
-            machine = new Machine(program, world);
+            machine = new Machine(program, world, draft);
         }
         return machine;
     }
@@ -326,10 +329,10 @@ public final class Macroloom {
     /** Runs a node, and makes all as it was, registers too. */
     private Report tryOut(int node) {
         Machine ready = readyMachine();
-        ready.open(node, budget, ready.draft);
+        ready.open(node, budget, draft);
         ready.advance(MOST_FRAMES, false);
         world.become(ready.before);
-        return ready.draft;
+        return draft;
     }
 
     private static boolean isBelow(int number, int bound) {
@@ -931,11 +934,10 @@ public final class Macroloom {
         private final Program program;
         private final World world;
         final World before = new World();
-        final Report draft = new Report();
         private final Frames frames = new Frames();
         private final Scopes scopes = new Scopes();
         private final Makings makings = new Makings();
-        private Report report = draft;
+        private Report report;
         /** Whether a run has begun and not ended. */
         boolean going;
         int calls;
@@ -946,16 +948,19 @@ public final class Macroloom {
         private boolean waiting;
         private int lastCall;
         private boolean hooking;
-        /** How the latest node ended: with which value or error, and of an error its cause and frame; of BREAK and NEXT the frame of the LOOP. */
+        /** How the latest node ended, and with which value or error. */
         private int ending;
         private int value;
         private int cause;
+        /** The frame that an error came about by, or that BREAK or NEXT goes to. */
         private int detail;
+        /** The value of what is run, while generators are being closed. */
         private int result;
 
-        Machine(Program program, World world) {
+        Machine(Program program, World world, Report report) {
             this.program = program;
             this.world = world;
+            this.report = report;
         }
 
         void open(int node, int mostSteps, Report whereTold) {
@@ -994,6 +999,7 @@ public final class Macroloom {
                 int work = program.code.works.at(place);
                 int about = program.code.details.at(place);
                 frames.places.put(current, place + 1);
+                // The instructions are numbered so that those of one group stand together.
                 if (work >= CATCH) {
                     performBehind(work, about);
                 } else if (work >= END) {
@@ -1001,7 +1007,7 @@ public final class Macroloom {
                 } else if (work >= INSERT) {
                     performEditing(work, about);
                 } else if (work >= LOOP) {
-                    performLeaving(work, about);
+                    performControl(work, about);
                 } else {
                     performReckoning(work, about);
                 }
@@ -1220,7 +1226,7 @@ public final class Macroloom {
             value = Math.max(-LARGEST, Math.min(LARGEST, reckoned));
         }
 
-        private void performLeaving(int work, int about) {
+        private void performControl(int work, int about) {
             switch (work) {
                 case BREAK:
                     leaveFor(loopWith(about), BY_BREAK);
