@@ -377,7 +377,6 @@ public final class Macroloom {
         final Row kinds = new Row(MOST_NODES, NONE);
         final Row firsts = new Row(MOST_NODES, NONE);
         final Row seconds = new Row(MOST_NODES, NONE);
-        final Row thirds = new Row(MOST_NODES, NONE);
         final Row sizes = new Row(MOST_NODES, 0);
         final Row breaks = new Row(MOST_NODES, 0);
         final Row entries = new Row(MOST_NODES, 0);
@@ -463,7 +462,6 @@ public final class Macroloom {
             kinds.put(added, kind);
             firsts.put(added, a);
             seconds.put(added, b);
-            thirds.put(added, c);
             sizes.put(added, sizeWith(kind, a, b, c));
             entries.put(added, code.translate(kind, a, b, c));
             count = added + 1;
@@ -753,13 +751,14 @@ public final class Macroloom {
         }
     }
 
-    /** All that a run can change, and that is undone with it. */
+    /** The texts, and all else that is there between runs. */
     private static final class World {
         private final Text zeroth = new Text();
         private final Text first = new Text();
         final Row options = new Row(OPTIONS, 0);
         final Row registers = new Row(REGISTERS, 0);
         final Row bodies = new Row(SLOTS, NONE);
+        /** No run changes these two, so they need not be undone. */
         final Row parameters = new Row(SLOTS, 0);
         final Row standards = new Row(SLOTS, NONE);
         int current;
@@ -780,8 +779,6 @@ public final class Macroloom {
             first.become(other.first);
             options.become(other.options);
             bodies.become(other.bodies);
-            parameters.become(other.parameters);
-            standards.become(other.standards);
             current = other.current;
             hooked = other.hooked;
         }
@@ -844,7 +841,7 @@ public final class Macroloom {
         }
     }
 
-    /** The nodes that have begun, by their steps; kept, held and spare are theirs to use. */
+    /** The nodes that have begun, by their steps; kept, held (0 at first) and spare are theirs to use. */
     private static final class Frames {
         final Row nodes = new Row(MOST_FRAMES, NONE);
         final Row ups = new Row(MOST_FRAMES, NONE);
@@ -1305,7 +1302,6 @@ public final class Macroloom {
                     break;
                 case EACH:
                     frames.kept.put(current, text.packedOrder());
-                    frames.held.put(current, 0);
                     frames.spare.put(current, text.chosen * BUFFERS + world.current);
                     break;
                 case BUFFER:
@@ -1429,7 +1425,6 @@ public final class Macroloom {
             }
             ending = how;
             detail = target;
-            jump(0);
         }
 
         private void apply() {

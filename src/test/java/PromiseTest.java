@@ -1069,6 +1069,43 @@ public final class PromiseTest {
         text("letters", 0, "ab");
         cursors("of its buffer", 0, 0, 2, NONE, NONE, 0);
         cursors("of the other one", 1, 2, 5, NONE, NONE, 0);
+        runEachEnds();
+    }
+
+    private static void runEachEnds() {
+        x = new Macroloom();
+        write(0, "abcd");
+        x.run(then(one(Macroloom.CURSOR, num(1)), move(3)));
+        int erase = bare(Macroloom.ERASE);
+        x.run(one(Macroloom.EACH, then(move(4), erase, num(1))));
+        x.run(one(Macroloom.CURSOR, num(0)));
+        cursors("the active one need not be the lowest", 0, 0, 3, NONE, NONE, 1);
+        int five = num(5);
+        x.setBudget(3);
+        runs("BUDGET meanwhile", one(Macroloom.EACH, then(five, five)), ERROR + Macroloom.BUDGET);
+        due("undone", x.activeCursor(0), 1);
+        x.setBudget(300);
+        x.start(one(Macroloom.EACH, five));
+        x.step(1);
+        due("meanwhile", x.activeCursor(0), 0);
+        x.giveUp();
+        due("given up", x.activeCursor(0), 1);
+        runs("none is left out", one(Macroloom.EACH, five), 2);
+        due("the same again", x.activeCursor(0), 1);
+        // The cursor 0 goes first; it erases the letter ahead of the cursor 1, which goes by that.
+        costs("the active one goes", one(Macroloom.EACH, then(move(3), erase, num(1))), 1, 7);
+        cursors("the lowest is active", 0, 2, NONE, NONE, NONE, 0);
+        for (int buffer = 0; buffer < 2; buffer++) {
+            x = new Macroloom();
+            write(buffer, "abcd");
+            int to = one(Macroloom.BUFFER, num(buffer));
+            x.run(then(to, one(Macroloom.CURSOR, num(0)), one(Macroloom.CURSOR, num(4)), move(2)));
+            int part = iff(bare(Macroloom.HERE), num(1), then(move(3), bare(Macroloom.ERASE)));
+            runs("the first one takes the active one away", one(Macroloom.EACH, part), 2);
+            cursors("the lowest, not the last", buffer, NONE, 2, 3, NONE, 1);
+            runs("none goes", one(Macroloom.EACH, num(1)), 2);
+            cursors("the same one again", buffer, NONE, 2, 3, NONE, 1);
+        }
     }
 
     private static void runBuffers() {
@@ -1090,6 +1127,7 @@ public final class PromiseTest {
         x.define(2, 0, four, NONE);
         int reload = two(Macroloom.RELOAD, 2, five);
         costs("RELOAD", reload, 0, 1);
+        runs("its value", then(num(4), reload), 0);
         due("body", x.body(2), five);
         x.define(2, 0, four, NONE);
         runs("it holds at once", then(reload, call(2, NONE, NONE)), 5);
@@ -1107,6 +1145,7 @@ public final class PromiseTest {
     private static void runHook() {
         x.define(1, 1, stay(0, name(0)), NONE);
         costs("HOOK", one(Macroloom.HOOK, 1), 0, 1);
+        runs("its value", then(num(4), one(Macroloom.HOOK, 1)), 0);
         due("hook", x.hook(), 1);
         costs("INSERT", insert(7), 7, 4);
         due("called with the letter", x.register(0), 7);
