@@ -14,7 +14,7 @@ public final class Macroloom {
 
     private static final int KINDS = 40;
     private static final int MOST_NODES = 120, MOST_SIZE = 150, LARGEST = 9999;
-    private static final int NAMES = 8, LABELS = 4, OPTIONS = 4, REGISTERS = 4, SLOTS = 6;
+    private static final int NAMES = 8, FOUR = 4, OPTIONS = 4, REGISTERS = 4, SLOTS = 6;
     private static final int BUFFERS = 2, LETTERS = 40, ALPHABET = 26, CURSORS = 4;
     private static final int FIRST_BUDGET = 300, MOST_STEPS = 600, MOST_CALLS = 12;
     private static final int FUNCTIONS = 20000, GENERATORS = 30000, ERRORS = 50000;
@@ -31,7 +31,10 @@ public final class Macroloom {
     /** Far above what can be performed between two steps. */
     private static final int MOST_TURNS = 1000000;
 
-    /** For each kind, what a, b and c are: see Program.fits; p is a part, o a part or NONE. */
+    /**
+     * What a, b and c of each kind are, by a letter each: p a part, o a part or NONE, v a number, n a name,
+     * q one of four (a label, an option, a register), s a slot, h a slot or NONE, - nothing.
+     */
     private static final String SHAPES = "v--n--np-np-pp-pp-pp-pp-pp-pp-ppppp-p--qp-qp-q--np-pp-soop--npppp-p--p--p--p--qppq--qp-p-----p-----------p--p--p--sp-h--";
 
     /* Instructions beside those that bear the number of a kind. */
@@ -423,22 +426,22 @@ public final class Macroloom {
         }
 
         private static boolean fits(char shape, int number) {
-            switch (shape) {
-                case 'v':
-                    return isNumber(number);
-                case 'n':
-                    return isBelow(number, NAMES);
-                case 'q':
-                    return isBelow(number, LABELS);
-                case 's':
-                    return isBelow(number, SLOTS);
-                case 'h':
-                    return number == NONE || isBelow(number, SLOTS);
-                case '-':
-                    return number == NONE;
-                default:
-                    return true;
+            if (shape == 'v') {
+                return isNumber(number);
             }
+            if (shape == 'n') {
+                return isBelow(number, NAMES);
+            }
+            if (shape == 'q') {
+                return isBelow(number, FOUR);
+            }
+            if (shape == 's') {
+                return isBelow(number, SLOTS);
+            }
+            if (shape == 'h') {
+                return number == NONE || isBelow(number, SLOTS);
+            }
+            return shape != '-' || number == NONE;
         }
 
         boolean hasRoom(int kind, int a, int b, int c) {
@@ -1183,12 +1186,7 @@ public final class Macroloom {
                     scopes.bind(scope, about, value);
                     break;
                 case PUT:
-                    int holder = scopes.holderOf(scope, about);
-                    if (holder == NONE) {
-                        fail(UNBOUND);
-                    } else {
-                        scopes.bind(holder, about, value);
-                    }
+                    putInto(scopes.holderOf(scope, about), about);
                     break;
                 case SAME:
                     value = frames.kept.at(current) == value ? 1 : 0;
@@ -1196,6 +1194,14 @@ public final class Macroloom {
                 default:
                     reckon(work, frames.kept.at(current), value);
                     break;
+            }
+        }
+
+        private void putInto(int holder, int name) {
+            if (holder == NONE) {
+                fail(UNBOUND);
+            } else {
+                scopes.bind(holder, name, value);
             }
         }
 
@@ -1232,8 +1238,7 @@ public final class Macroloom {
                     leaveFor(loopWith(about), BY_NEXT);
                     break;
                 case RETURN:
-                    int root = frames.rootOf(current);
-                    leaveFor(frames.bodies.at(root) >= FUNCTION_BODY ? root : NONE, BY_RETURN);
+                    leaveFor(bodyToReturn(), BY_RETURN);
                     break;
                 case FUNCTION:
                     value = makings.makeFunction(current);
@@ -1416,6 +1421,12 @@ public final class Macroloom {
                 frame = frames.bodies.at(frame) == PART ? frames.ups.at(frame) : NONE;
             }
             return NONE;
+        }
+
+        /** The frame of the body that RETURN ends; NONE if it is what is run, or a standard. */
+        private int bodyToReturn() {
+            int root = frames.rootOf(current);
+            return frames.bodies.at(root) >= FUNCTION_BODY ? root : NONE;
         }
 
         private void leaveFor(int target, int how) {

@@ -556,6 +556,11 @@ public final class DifferentialTest {
             made = then(made, chance(50) ? insert() : fallen(make(Macroloom.CURSOR, number(0, 3), NONE, NONE)));
         }
         int done = chance(30) ? fallen(make(Macroloom.ERASE, NONE, NONE, NONE)) : chance(40) ? insert() : part(depth);
+        if (chance(40)) {
+            int here = fallen(make(Macroloom.SAME, fallen(make(Macroloom.HERE, NONE, NONE, NONE)), number(0, 3), NONE));
+            int move = then(fallen(make(Macroloom.MOVE, number(0, 4), NONE, NONE)), done);
+            done = fallen(make(Macroloom.IF, here, move, number(0, 1)));
+        }
         return then(made, fallen(make(Macroloom.EACH, done, NONE, NONE)));
     }
 
