@@ -1074,6 +1074,7 @@ public final class Macroloom {
             waiting = true;
         }
 
+        /** The current frame comes to an error; it goes on where it would if a part had ended so. */
         private void fail(int error) {
             ending = BY_ERROR;
             value = error;
@@ -1122,6 +1123,7 @@ public final class Macroloom {
             }
         }
 
+        /** What a node does behind a part of it; these keep to how the part ended. */
         private void performBehind(int work, int about) {
             switch (work) {
                 case CATCH:
@@ -1385,6 +1387,7 @@ public final class Macroloom {
             ending = BY_VALUE;
         }
 
+        /** LOOP, behind a part that left: it is ended, done again, or left too. */
         private void catchLeaving(int again) {
             boolean meant = detail == current;
             if (meant && ending == BY_BREAK) {
@@ -1395,6 +1398,7 @@ public final class Macroloom {
             }
         }
 
+        /** FINALLY keeps how its a ended until its b has ended. */
         private void hold() {
             frames.held.put(current, ending);
             frames.kept.put(current, value);

@@ -765,6 +765,7 @@ public final class PromiseTest {
         runs("of a slot", call(0, NONE, NONE), 4);
         runs("the innermost body", apply(fun(0, then(apply(fun(0, one(Macroloom.RETURN, num(4))), two), num(6))), two), 6);
         runs("of a generator", then(let(0, gen(then(one(Macroloom.RETURN, num(4)), yielded(num(5))))), ask(name(0))), -1);
+        runs("behind that", then(ask(gen(one(Macroloom.RETURN, num(4)))), num(9)), 9);
         runs("RETURN of RETURN", apply(fun(0, one(Macroloom.RETURN, one(Macroloom.RETURN, num(4)))), two), 4);
         runs("through FINALLY", apply(fun(0, last(one(Macroloom.RETURN, num(4)), stay(0, num(6)))), two), 4);
         due("through FINALLY", x.register(0), 6);
@@ -803,6 +804,8 @@ public final class PromiseTest {
         due("done", x.register(1), 6);
         runs("BREAK", loop(0, last(leave(0, num(4)), stay(2, num(6)))), 4);
         due("done", x.register(2), 6);
+        runs("BREAK, with another one in b", loop(0, last(leave(0, num(4)), loop(1, leave(1, num(5))))), 4);
+        runs("BREAK, with the same label in b", loop(0, last(leave(0, num(4)), loop(0, leave(0, num(5))))), 4);
         runs("b ends by an error", last(num(4), fail(5)), ERROR + 5);
         runs("b ends by BREAK", loop(0, last(fail(5), leave(0, num(7)))), 7);
         runs("b ends by BREAK", loop(0, last(leave(0, num(5)), leave(0, num(7)))), 7);
@@ -945,7 +948,7 @@ public final class PromiseTest {
         cursors("INSERT", 0, 2, NONE, NONE, NONE, 0);
         runs("-1", insert(-1), ERROR + Macroloom.RANGE);
         runs("26", insert(26), ERROR + Macroloom.RANGE);
-        runs("a function", one(Macroloom.INSERT, fun(0, num(1))), ERROR + Macroloom.TYPE);
+        costs("a function", one(Macroloom.INSERT, fun(0, num(1))), ERROR + Macroloom.TYPE, 2);
         x.run(then(one(Macroloom.CURSOR, num(0)), one(Macroloom.CURSOR, num(1)), one(Macroloom.CURSOR, num(2)), move(1)));
         cursors("ahead", 0, 1, 0, 1, 2, 0);
         runs("in the midst", insert(1), 1);
@@ -1092,8 +1095,19 @@ public final class PromiseTest {
         due("given up", x.activeCursor(0), 1);
         runs("none is left out", one(Macroloom.EACH, five), 2);
         due("the same again", x.activeCursor(0), 1);
+        write(0, "de");
+        x.run(one(Macroloom.CURSOR, num(5)));
+        x.start(one(Macroloom.EACH, iff(bare(Macroloom.HERE), five, then(move(4), erase))));
+        x.step(600);
+        due("two were done", x.outcome(), 2);
+        cursors("the lowest, not the last", 0, 3, NONE, 4, NONE, 0);
+        x = new Macroloom();
+        write(0, "abcd");
+        x.run(then(one(Macroloom.CURSOR, num(1)), move(3)));
+        x.run(one(Macroloom.EACH, then(move(4), bare(Macroloom.ERASE), num(1))));
+        x.run(one(Macroloom.CURSOR, num(0)));
         // The cursor 0 goes first; it erases the letter ahead of the cursor 1, which goes by that.
-        costs("the active one goes", one(Macroloom.EACH, then(move(3), erase, num(1))), 1, 7);
+        costs("the active one goes", one(Macroloom.EACH, then(move(3), bare(Macroloom.ERASE), num(1))), 1, 7);
         cursors("the lowest is active", 0, 2, NONE, NONE, NONE, 0);
         for (int buffer = 0; buffer < 2; buffer++) {
             x = new Macroloom();
@@ -1823,6 +1837,11 @@ public final class PromiseTest {
         trace("the ASK by which it went on", zero, again);
         x.run(then(let(0, gen(last(yielded(num(1)), zero))), first));
         trace("closing is no call", zero);
+        int resting = ask(gen(last(yielded(num(1)), zero)));
+        x.run(ask(gen(then(resting, num(3)))));
+        trace("closing is no call", zero);
+        x.run(last(zero, attempt(0, fails, num(1))));
+        trace("an error caught meanwhile", zero);
         x.setBudget(1);
         int one = num(1);
         x.run(one(Macroloom.SCOPE, one));
