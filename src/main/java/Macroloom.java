@@ -390,9 +390,11 @@ public final class Macroloom {
             return isBelow(node, count);
         }
 
-        private static char shapeOf(int kind, int which) {
+        /** A CALL without a first argument has no second one: its c is nothing then, not a part or NONE. */
+        private static char shapeOf(int kind, int which, int b) {
             int place = kind * 3 + which;
-            return isBelow(kind, KINDS) && isBelow(place, SHAPES.length()) ? SHAPES.charAt(place) : '-';
+            boolean isNothing = kind == CALL && which == 2 && b == NONE;
+            return !isNothing && isBelow(kind, KINDS) && isBelow(place, SHAPES.length()) ? SHAPES.charAt(place) : '-';
         }
 
         private static int choose(int which, int a, int b, int c) {
@@ -401,7 +403,7 @@ public final class Macroloom {
 
         boolean lacksPart(int kind, int a, int b, int c) {
             for (int which = 0; which < 3; which++) {
-                char shape = shapeOf(kind, which);
+                char shape = shapeOf(kind, which, b);
                 int part = choose(which, a, b, c);
                 if (shape == 'p' && !has(part)) {
                     return true;
@@ -414,11 +416,11 @@ public final class Macroloom {
         }
 
         boolean isShaped(int kind, int a, int b, int c) {
-            if (!isBelow(kind, KINDS) || (kind == CALL && b == NONE && c != NONE)) {
+            if (!isBelow(kind, KINDS)) {
                 return false;
             }
             for (int which = 0; which < 3; which++) {
-                if (!fits(shapeOf(kind, which), choose(which, a, b, c))) {
+                if (!fits(shapeOf(kind, which, b), choose(which, a, b, c))) {
                     return false;
                 }
             }
@@ -451,7 +453,7 @@ public final class Macroloom {
         private int sizeWith(int kind, int a, int b, int c) {
             int sum = 1;
             for (int which = 0; which < 3; which++) {
-                char shape = shapeOf(kind, which);
+                char shape = shapeOf(kind, which, b);
                 int part = choose(which, a, b, c);
                 if ((shape == 'p' || shape == 'o') && kind != RELOAD && has(part)) {
                     sum += sizes.at(part);

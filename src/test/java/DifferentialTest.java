@@ -23,6 +23,10 @@ public final class DifferentialTest {
     }
 
     public static void main(String[] args) {
+        for (int kind = -1; kind <= 40 && wrong < 5; kind++) {
+            makeAll(kind, 0);
+            makeAll(kind, 3);
+        }
         long first = args.length > 0 ? Long.parseLong(args[0]) : 1;
         long count = args.length > 1 ? Long.parseLong(args[1]) : 2500;
         for (long seed = first; seed < first + count && wrong < 5; seed++) {
@@ -33,6 +37,23 @@ public final class DifferentialTest {
             reach();
         }
         System.exit(wrong > 0 ? 1 : 0);
+    }
+
+    /** Makes a node of a kind with all that a, b and c may be, each on a new object that has some nodes. */
+    private static void makeAll(int kind, int nodes) {
+        int[] given = {Integer.MIN_VALUE, -10000, -9999, -2, -1, 0, 2, 3, 4, 5, 6, 7, 8, 119, 9999, 10000};
+        for (int a : given) {
+            for (int b : given) {
+                for (int c : given) {
+                    DifferentialTest test = new DifferentialTest();
+                    test.fresh();
+                    for (int made = 0; made < nodes; made++) {
+                        test.number(made, made);
+                    }
+                    test.make(kind, a, b, c);
+                }
+            }
+        }
     }
 
     private static void reach() {
@@ -81,12 +102,16 @@ public final class DifferentialTest {
         return due;
     }
 
-    private void play(long seed) {
-        this.seed = seed;
+    private void fresh() {
         random = new Random(seed);
         real = new Macroloom();
         model = new Model();
         told = new ArrayList<>();
+    }
+
+    private void play(long seed) {
+        this.seed = seed;
+        fresh();
         askAll();
         int rounds = 3 + random.nextInt(4);
         for (int round = 0; round < rounds && !differs; round++) {

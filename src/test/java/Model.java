@@ -255,6 +255,9 @@ final class Model {
             throw new IllegalArgumentException();
         }
         String[] words = shape.split(" ");
+        if (kind == Macroloom.CALL && b == NONE) {
+            words[2] = "none";
+        }
         int[] given = {a, b, c};
         for (int i = 0; i < 3; i++) {
             if (words[i].equals("node") && !isNode(given[i]) || words[i].equals("maybe") && given[i] != NONE && !isNode(given[i])) {
@@ -276,9 +279,6 @@ final class Model {
             if (!fine) {
                 throw new IllegalArgumentException();
             }
-        }
-        if (kind == Macroloom.CALL && b == NONE && c != NONE) {
-            throw new IllegalArgumentException();
         }
         if (nodes.size() == 120 || size > 150) {
             throw new IllegalStateException();

@@ -337,11 +337,17 @@ public final class PromiseTest {
         due("CALL", call(0, NONE, NONE), first + 3);
         due("CALL", call(5, 0, NONE), first + 4);
         due("CALL", call(5, 0, 1), first + 5);
-        noArgument("CALL with c alone", () -> call(0, NONE, 0));
+        for (int alone : new int[] {0, 1, first + 5, first + 6, 119, 120, -2, Integer.MIN_VALUE, Integer.MAX_VALUE}) {
+            noArgument("CALL with c alone, " + alone, () -> call(0, NONE, alone));
+            noArgument("CALL of no slot with c alone, " + alone, () -> call(6, NONE, alone));
+        }
         noArgument("a of CALL", () -> call(6, 0, 0));
         noArgument("a of CALL", () -> call(-1, NONE, NONE));
         noIndex("b of CALL", () -> call(0, -2, NONE));
         noIndex("b of CALL", () -> call(0, 119, NONE));
+        noIndex("b and c of CALL", () -> call(0, -2, -2));
+        noIndex("b of CALL ahead of its slot", () -> call(6, -2, NONE));
+        noIndex("c of CALL ahead of its slot", () -> call(6, 0, 119));
         noIndex("c of CALL", () -> call(0, 0, -2));
         noIndex("c of CALL", () -> call(0, 0, 119));
         due("HOOK", one(Macroloom.HOOK, NONE), first + 6);
@@ -395,6 +401,9 @@ public final class PromiseTest {
         noState("the 121st", () -> num(1));
         noIndex("the index first", () -> one(Macroloom.SCOPE, 120));
         noArgument("the argument first", () -> num(10000));
+        x = new Macroloom();
+        noArgument("CALL with c alone, of no nodes", () -> call(0, NONE, 0));
+        due("CALL of no nodes", call(0, NONE, NONE), 0);
         x = new Macroloom();
         num(3);
         x.start(0);
