@@ -4,6 +4,7 @@ final class CallEdges extends Edges {
         edge(8, "BREAK, NEXT, RETURN and YIELD go to nothing outside of the body in which they are, and tell ASTRAY behind their part a or b.", CallEdges::astray);
         edge(8, "FUNCTION a b: a function with the name a as its parameter and the body b, which keeps the innermost scope.", CallEdges::functions);
         edge(8, "APPLY a b: a, then b; the value of a has to be a function, otherwise TYPE.", CallEdges::applied);
+        edge(8, "It is called: its body is done in a new scope, whose outer one is that which it keeps, with a cell for its parameter with the value of b.", CallEdges::calledInNewScope);
         edge(8, "they are the arguments, of which there are as many as are not NONE", CallEdges::arguments);
         edge(8, "UNBOUND, if the slot has no function; TYPE, if there are more arguments than it has parameters.", CallEdges::noCall);
         edge(8, "its body, as the slot has it when it begins, behind the standard, is done in a new scope without an outer one", CallEdges::bodyWhenItBegins);
@@ -15,6 +16,7 @@ final class CallEdges extends Edges {
         edge(8, "YIELD a: the body, which has to be that of a generator, rests with the value of a; when it goes on, the value of YIELD is 0.", CallEdges::yields);
         edge(8, "ASTRAY (behind a), if the body is no such one, or if the YIELD lies, in this body, within the part of an EACH, or the c of an OPTION, or the generator is being closed.", CallEdges::yieldsAstray);
         edge(8, "the value of a has to be a generator that is neither being asked nor being closed just now, otherwise TYPE.", CallEdges::askedOrClosed);
+        edge(8, "If it is fresh, its body is done, in a new scope whose outer one is that which it keeps; if it rests, it goes on; the value of ASK is that with which it rests next.", CallEdges::freshOrAtRest);
         edge(8, "If its body ends with a value, or by RETURN, it is spent, and the value of ASK is -1; likewise if it is spent already.", CallEdges::spent);
         edge(8, "If it ends with an error, it is spent, and ASK ends with that.", CallEdges::spentByError);
         edge(8, "RELOAD a b, a slot 0 to 5: the function of the slot a has the body b from now on, where it is called; UNBOUND, if it has none; 0.", CallEdges::reloads);
@@ -118,6 +120,20 @@ final class CallEdges extends Edges {
         runs("an error of b, ahead of TYPE", apply(num(1), fail(4)), ERROR + 4);
         runs("a spent one is no function", apply(then(let(1, gen(num(1))), ask(name(1)), name(1)), num(1)), TYPE);
         runs("the value of the body", apply(fun(0, fun(1, num(1))), num(1)), FUN + 1);
+    }
+
+    private static void calledInNewScope() {
+        int first = name(0), second = name(1);
+        int binds = fun(0, then(attempt(2, second, let(1, num(0))), let(1, sum(first, num(1))), second));
+        runs("the parameter", apply(binds, num(4)), 5);
+        runs("a new scope each time", then(let(3, binds), apply(name(3), num(4)), apply(name(3), num(7))), 8);
+        runs("none of it is left", then(let(3, fun(0, attempt(2, second, then(let(1, first), num(-1))))), apply(name(3), num(4)), apply(name(3), num(7))), -1);
+        runs("LET takes the parameter's cell", apply(fun(0, then(let(0, num(9)), first)), num(4)), 9);
+        runs("PUT goes into it", then(let(0, num(1)), apply(fun(0, put(0, num(9))), num(4)), first), 1);
+        runs("PUT goes out where it has none", then(let(0, num(1)), apply(fun(1, put(0, second)), num(4)), first), 4);
+        runs("one call in the other, each its own", then(let(3, fun(0, iff(first, sum(apply(name(3), minus(first, num(1))), first), num(0)))), apply(name(3), num(4))), 10);
+        runs("a parameter that is a function", apply(fun(0, apply(first, num(6))), fun(1, sum(second, num(1)))), 7);
+        runs("the scope that it keeps, though that has ended", apply(apply(fun(0, fun(1, sum(first, second))), num(30)), num(4)), 34);
     }
 
     private static void arguments() {
@@ -362,6 +378,24 @@ final class CallEdges extends Edges {
         int asksLater = gen(last(yielded(num(4)), stay(1, ask(name(2)))));
         runs("it will be closed later", then(let(0, asksLater), let(2, gen(then(yielded(num(5)), yielded(num(6))))), ask(name(2)), ask(name(0))), 4);
         due("it goes on meanwhile", x.register(1), 6);
+    }
+
+    private static void freshOrAtRest() {
+        int asked = ask(name(0)), seen = name(1);
+        int counts = gen(then(let(1, num(10)), loop(0, then(yielded(seen), put(1, sum(seen, num(1)))))));
+        runs("fresh", then(let(0, counts), asked), 10);
+        runs("at rest", then(let(0, counts), asked, asked), 11);
+        runs("at rest again", then(let(0, counts), asked, asked, asked), 12);
+        runs("its scope is its own", then(let(1, num(5)), let(0, counts), asked, seen), 5);
+        runs("another one of the same node is fresh", then(let(0, counts), asked, asked, let(0, counts), asked), 10);
+        int outer = gen(then(yielded(put(1, sum(seen, num(1)))), yielded(put(1, sum(seen, num(1))))));
+        runs("the scope that it keeps", then(let(1, num(20)), let(0, outer), asked, put(1, num(50)), asked), 51);
+        runs("asked by each that has it", then(let(0, counts), asked, apply(fun(3, ask(name(3))), name(0)), asked), 12);
+        x.start(then(let(0, counts), asked, asked));
+        x.step(6);
+        due("fresh: ahead of its body", x.active(), 1);
+        due("fresh: a scope without cells of its own", x.look(1), UNBOUND);
+        x.giveUp();
     }
 
     private static void spent() {

@@ -4,10 +4,12 @@ import java.util.Random;
 
 /**
  * Random runs of calls on a Macroloom and on the Model beside it: each answer, and all that can be asked behind
- * each call, has to be the same. The seeds are fixed, so each time the same calls are made.
+ * each call, has to be the same. The seeds are fixed, so each time the same calls are made. An object is used for
+ * 512 calls at most; then another one is made, brought to the same state by the calls that have changed something.
  */
 public final class DifferentialTest {
     private static final int NONE = -1;
+    private static final int MOST_CALLS = 512;
     private static int wrong = 0;
     private static long calls = 0;
 
@@ -16,7 +18,10 @@ public final class DifferentialTest {
     private Random random;
     private long seed;
     private List<String> told;
-    private boolean differs;
+    private List<Call> changes;
+    private int used;
+    /** An answer was wrong, or the changes alone are nearly as many calls as an object has. */
+    private boolean stopped;
 
     interface Call {
         int on(boolean isReal);
@@ -80,15 +85,23 @@ public final class DifferentialTest {
     }
 
     private int both(String name, Call call) {
-        if (differs) {
+        if (stopped) {
             return 1000004;
         }
+        if (used >= MOST_CALLS) {
+            renew();
+        }
         calls++;
+        used++;
         int due = answer(call, false);
         int got = answer(call, true);
         told.add(name + " -> " + got);
+        if (!name.startsWith("?") && due < 1000000) {
+            changes.add(call);
+            stopped = changes.size() > MOST_CALLS - 20;
+        }
         if (got != due) {
-            differs = true;
+            stopped = true;
             wrong++;
             System.out.println("seed " + seed + ": " + name + " answered " + got + ", due is " + due);
             if (wrong <= 2) {
@@ -107,6 +120,16 @@ public final class DifferentialTest {
         real = new Macroloom();
         model = new Model();
         told = new ArrayList<>();
+        changes = new ArrayList<>();
+        used = 0;
+    }
+
+    private void renew() {
+        real = new Macroloom();
+        for (Call change : changes) {
+            answer(change, true);
+        }
+        used = changes.size();
     }
 
     private void play(long seed) {
@@ -114,7 +137,7 @@ public final class DifferentialTest {
         fresh();
         askAll();
         int rounds = 3 + random.nextInt(4);
-        for (int round = 0; round < rounds && !differs; round++) {
+        for (int round = 0; round < rounds && !stopped; round++) {
             settings();
             if (chance(60)) {
                 defineSome();
@@ -124,7 +147,7 @@ public final class DifferentialTest {
             for (int i = 0; i < wanted; i++) {
                 programs.add(program());
             }
-            for (int i = 0; i < wanted && !differs; i++) {
+            for (int i = 0; i < wanted && !stopped; i++) {
                 use(programs.get(random.nextInt(wanted)));
             }
         }
@@ -201,7 +224,7 @@ public final class DifferentialTest {
     /** Functions of slots that are made for it: bodies and standards with the names of the parameters. */
     private void defineSome() {
         int some = 1 + random.nextInt(3);
-        for (int i = 0; i < some && !differs; i++) {
+        for (int i = 0; i < some && !stopped; i++) {
             left = 4 + random.nextInt(10);
             int slot = pick(0, 2), parameters = chance(60) ? pick(1, 2) : pick(0, 2);
             int made = part(pick(1, 4));
@@ -246,7 +269,7 @@ public final class DifferentialTest {
         askAll();
         int stride = chance(40) ? 1 : chance(50) ? 5 : 100;
         int patience = chance(20) ? pick(1, 10) : 80;
-        for (int turn = 0; turn < patience && model.next() != NONE && !differs; turn++) {
+        for (int turn = 0; turn < patience && model.next() != NONE && !stopped; turn++) {
             if (chance(10)) {
                 refused();
             }
@@ -257,7 +280,7 @@ public final class DifferentialTest {
         if (chance(50)) {
             both("giveUp()", isReal -> isReal ? real.giveUp() : model.giveUp());
         } else {
-            for (int turn = 0; turn < 700 && model.next() != NONE && !differs; turn++) {
+            for (int turn = 0; turn < 700 && model.next() != NONE && !stopped; turn++) {
                 both("step(600)", isReal -> isReal ? real.step(600) : model.step(600));
                 askAll();
             }

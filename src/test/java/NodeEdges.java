@@ -18,6 +18,7 @@ final class NodeEdges extends Edges {
         edge(8, "of two numbers; otherwise TYPE.", NodeEdges::twoNumbers);
         edge(8, "SAME a b: 1 if both values are the same, otherwise 0.", NodeEdges::sameValues);
         edge(8, "IF a b c: b, if the value of a is not the number 0, otherwise c; its value.", NodeEdges::notZero);
+        edge(8, "THEN a b: a, then b; the value of b.", NodeEdges::oneBehindTheOther);
         edge(8, "SCOPE a: a in a new scope, whose outer one is the innermost one.", NodeEdges::scopes);
         edge(8, "LOOP a b, a label 0 to 3: b is done again and again, each time in a new scope, as told at SCOPE.", NodeEdges::loops);
         edge(8, "BREAK a b: with the value of b the innermost LOOP with the label a within the body ends, and has it as its value; ASTRAY, if there is none.", NodeEdges::breaks);
@@ -424,6 +425,20 @@ final class NodeEdges extends Edges {
         runs("the value is a function", iff(num(0), yes, fun(0, yes)), FUN);
     }
 
+    private static void oneBehindTheOther() {
+        int first = stay(0, num(4)), second = stay(0, num(5));
+        costs("the value of b", then(first, second), 5, 5);
+        due("b is the later one", x.register(0), 5);
+        costs("the value of b", then(second, first), 4, 5);
+        due("b is the later one", x.register(0), 4);
+        runs("the value of a does not matter", then(fun(0, first), num(0)), 0);
+        runs("a function as b", then(num(0), fun(0, first)), FUN);
+        runs("an error of a, and b is not begun", then(fail(3), second), ERROR + 3);
+        due("b is not begun", x.register(0), 4);
+        runs("an error of b, and a was done", then(second, fail(3)), ERROR + 3);
+        due("a was done", x.register(0), 5);
+    }
+
     private static void scopes() {
         int sees = name(0);
         runs("the outer one is seen", then(let(0, num(4)), scope(sees)), 4);
@@ -707,6 +722,9 @@ final class NodeEdges extends Edges {
         runs("nested", option(3, num(7), then(option(3, num(8), num(1)), get)), 7);
         runs("an error of b", then(attempt(0, option(3, fail(1), num(1)), num(1)), get), 0);
         runs("within a call", then(let(0, fun(1, get)), option(3, num(9), apply(name(0), num(1)))), 9);
+        int rests = gen(then(option(3, yielded(num(1)), num(2)), yielded(get))), asked = ask(name(0));
+        runs("what it was when c began, not b", then(let(0, rests), option(3, num(4), asked), option(3, num(9), asked)), 9);
+        runs("what it was when c began, not b", then(let(0, rests), option(3, num(4), asked), asked), 0);
         x.setBudget(3);
         runs("BUDGET", option(3, num(7), then(num(1), num(1))), BUDGET);
         due("BUDGET", x.option(3), 0);

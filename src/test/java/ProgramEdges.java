@@ -27,6 +27,7 @@ final class ProgramEdges extends Edges {
         edge(3, "Throws `IllegalArgumentException` if parameters is out of range, or standard is not NONE and parameters is not 2", ProgramEdges::standardForTwo);
         edge(3, "Throws `IllegalStateException` if a run is stepped", ProgramEdges::notWhileStepped);
         edge(4, "Throws `IndexOutOfBoundsException` if there is no such node", ProgramEdges::sizes);
+        edge(4, "Returns the size.", ProgramEdges::sizesOfKinds);
         edge(5, "Sets an option, which is 0 at first.", ProgramEdges::options);
         edge(5, "`value`: -9999 to 9999", ProgramEdges::optionValues);
         edge(6, "`steps`: 1 to 600", ProgramEdges::budgets);
@@ -400,6 +401,27 @@ final class ProgramEdges extends Edges {
         noIndex("behind the last", () -> x.size(2));
         x.start(0);
         due("while a run is stepped", x.size(1), 1);
+    }
+
+    private static void sizesOfKinds() {
+        for (int kind = 0; kind < 40; kind++) {
+            fresh();
+            int part = sum(num(1), num(2)), parts = 0;
+            int[] all = usual(kind);
+            for (int which = 0; which < 3; which++) {
+                boolean isPart = "po".indexOf(SHAPES[kind].charAt(which)) >= 0;
+                parts += isPart && kind != Macroloom.RELOAD ? 1 : 0;
+                all[which] = isPart ? part : all[which];
+            }
+            due("kind " + kind, x.size(x.node(kind, all[0], all[1], all[2])), 1 + 3 * parts);
+        }
+        fresh();
+        int part = sum(num(1), num(2));
+        due("CALL of none", x.size(call(0, NONE, NONE)), 1);
+        due("CALL of one", x.size(call(0, part, NONE)), 4);
+        due("CALL of two", x.size(call(0, part, part)), 7);
+        x.define(0, 0, sized(100), NONE);
+        due("a slot's body does not count", x.size(call(0, NONE, NONE)), 1);
     }
 
     private static void options() {

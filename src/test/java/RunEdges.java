@@ -209,6 +209,12 @@ final class RunEdges extends Edges {
         int makes = let(0, gen(last(yielded(num(4)), ask(gen(last(yielded(num(5)), stay(3, num(7))))))));
         runs("one that comes to rest meanwhile", then(makes, asked), 4);
         due("is closed too", x.register(3), 7);
+        int lower = then(let(3, gen(last(yielded(num(8)), stay(0, num(5))))), let(4, gen(last(yielded(num(9)), ask(name(3))))), ask(name(4)));
+        runs("a lower one that was fresh", lower, 9);
+        due("is closed when it has come to rest meanwhile", x.register(0), 5);
+        x.setBudget(4);
+        costs("closing that begins no node costs nothing", ask(gen(yielded(num(2)))), 2, 4);
+        x.setBudget(300);
         runs("the value is that of what is run", then(makes, asked, num(3)), 3);
         runs("the value is a function", then(makes, asked, fun(0, num(1))), FUN);
         runs("the value is the generator", then(makes, asked, name(0)), GEN);
@@ -251,6 +257,9 @@ final class RunEdges extends Edges {
         runs("the run ends with that", both, ERROR + 7);
         trace("closing is no call", fails);
         due("no further one", x.register(0), 0);
+        int calls = apply(fun(0, fails), four);
+        runs("a call while one is closed", ask(gen(last(yielded(four), calls))), ERROR + 7);
+        trace("a call while one is closed", fails, calls);
         int third = let(0, gen(last(yielded(four), marks))), fourth = let(1, gen(last(yielded(four), fails)));
         runs("the ones ahead were closed", then(third, fourth, asked, other), ERROR + 7);
         due("the ones ahead were closed", x.register(0), 6);

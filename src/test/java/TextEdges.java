@@ -533,8 +533,12 @@ final class TextEdges extends Edges {
             due("2 is active again", x.activeCursor(buffer), 2);
             runs("by an error too", attempt(0, each(fail(5)), name(0)), 5);
             due("by an error too", x.activeCursor(buffer), 2);
+            x.run(then(another(0), another(0)));
+            cursors("lower ones came", buffer, 0, 0, 0, 3, 2);
+            runs("2 is active again, not a lower one", each(num(1)), 4);
+            due("2 is active again, not a lower one", x.activeCursor(buffer), 2);
             int over = each(then(into(1 - buffer), num(1)));
-            runs("though another buffer is current then", over, 2);
+            runs("though another buffer is current then", over, 4);
             due("though another buffer is current then", x.activeCursor(buffer), 2);
             due("that of the other one", x.activeCursor(1 - buffer), 0);
             due("that is current", x.buffer(), 1 - buffer);
