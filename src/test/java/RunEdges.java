@@ -194,6 +194,10 @@ final class RunEdges extends Edges {
         due("the second one alone", x.register(1), 7);
         runs("both rest: the lowest first", then(first, second, other, asked), 4);
         due("the lowest first, the other one last", x.register(1), 7);
+        x.run(stay(1, num(0)));
+        runs("the value 0", then(first, second, asked, other, num(0)), 0);
+        due("the value 0: the first was closed", x.register(0), 6);
+        due("the value 0: the second was closed", x.register(1), 7);
         runs("made in the other order", then(second, first, other, asked), 4);
         due("made in the other order", x.register(1), 6);
         runs("one that is spent", then(first, asked, asked, stay(1, num(8))), 8);
