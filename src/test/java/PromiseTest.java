@@ -703,6 +703,8 @@ public final class PromiseTest extends Kit {
         x.setBudget(300);
         runs("a loop left by b", then(let(0, gen(then(loop(0, last(yielded(num(4)), leave(0, num(1)))), stay(0, num(8))))), ask(name(0))), 4);
         due("a loop left by b", x.register(0), 8);
+        runs("RETURN goes past a loop", then(let(0, gen(then(nextAndYield(), stay(0, num(7))))), ask(name(0))), 4);
+        due("RETURN goes past a loop", x.register(0), 8);
         x = new Macroloom();
         int later = last(yielded(num(5)), stay(1, num(9)));
         runs("a new one comes to rest", then(let(0, gen(last(yielded(num(4)), ask(gen(later))))), ask(name(0))), 4);
@@ -710,6 +712,32 @@ public final class PromiseTest extends Kit {
         int high = then(let(1, gen(last(yielded(num(4)), ask(gen(last(yielded(num(5)), stay(2, num(3)))))))), ask(name(1)));
         runs("rest by rest", high, 4);
         due("rest by rest", x.register(2), 3);
+        runCallsWhileClosing();
+    }
+
+    /** A LOOP whose part goes on by NEXT, and rests the second time. */
+    private static int nextAndYield() {
+        int counts = put(5, two(Macroloom.SUM, name(5), num(1)));
+        int rests = iff(same(name(5), num(1)), again(0), yielded(num(4)));
+        return then(let(5, num(0)), loop(0, then(counts, rests)));
+    }
+
+    /** Whatever a generator that is being closed calls, the outcome is the value of what was run. */
+    private static void runCallsWhileClosing() {
+        x = new Macroloom();
+        int both = two(Macroloom.SUM, name(0), name(1));
+        x.define(0, 2, stay(0, both), stay(3, num(30)));
+        x.define(1, 1, back(stay(1, name(0))), NONE);
+        int[] calls = {call(0, num(12), NONE), call(1, num(5), NONE), then(hook(0), insert(4)),
+            apply(fun(0, back(stay(2, name(0)))), num(6)), ask(gen(stay(2, num(7)))), ask(gen(yielded(stay(2, num(8)))))};
+        int[] registers = {0, 1, 0, 2, 2, 2}, kept = {42, 5, 34, 6, 7, 8};
+        for (int i = 0; i < calls.length; i++) {
+            int asks = ask(gen(last(yielded(num(3)), calls[i])));
+            runs("call " + i, asks, 3);
+            due("call " + i + " was made", x.register(registers[i]), kept[i]);
+            runs("call " + i + " behind a function", then(asks, fun(0, both)), FUN);
+        }
+        due("the letter stands", x.letter(0, 0), 4);
     }
 
     private static void runOptions() {
@@ -1116,8 +1144,11 @@ public final class PromiseTest extends Kit {
         due("steps stay", x.steps(), 5);
         due("cause stays", x.cause(), 1);
         due("trace stays", x.traced(), 1);
-        x.breakAt(all, true);
+        for (int node = 0; node <= all; node++) {
+            x.breakAt(node, true);
+        }
         due("breaks do not matter", x.tried(all), 5);
+        due("none is stepped", x.next(), NONE);
         due("the break stays", x.breakAt(all, false), true);
         noIndex("-1", () -> x.tried(-1));
         noIndex("beyond", () -> x.tried(119));
@@ -1161,6 +1192,11 @@ public final class PromiseTest extends Kit {
         due("for ever", x.triedSteps(loop(0, sum)), 300);
         int asked = then(let(0, gen(last(yielded(num(4)), stay(0, num(6))))), ask(name(0)));
         due("closing too", x.triedSteps(asked), 10);
+        for (int node = 0; node <= asked; node++) {
+            x.breakAt(node, true);
+        }
+        due("breaks do not matter", x.triedSteps(asked), 10);
+        due("none is stepped", x.next(), NONE);
         noIndex("-1", () -> x.triedSteps(-1));
         noIndex("beyond", () -> x.triedSteps(119));
         x.start(sum);
@@ -1336,6 +1372,9 @@ public final class PromiseTest extends Kit {
         x.giveUp();
         due("it is not undone", x.breakAt(one, false), false);
         due("it stands", x.breakAt(sum, false), true);
+        x.breakAt(one, true);
+        due("a run that is not stepped goes on", x.run(sum), 2);
+        due("none is stepped", x.next(), NONE);
     }
 
     // ---- Promise 15: next

@@ -499,9 +499,15 @@ final class RunEdges extends Edges {
             due("traced", x.traced(), 1);
             due("next", x.next(), NONE);
         }
-        due("breaks", x.breakAt(all, true), false);
+        for (int node = 0; node <= all; node++) {
+            due("breaks", x.breakAt(node, true), false);
+        }
         due("they do not matter", x.tried(all), 8);
-        due("they stay", x.breakAt(all, false), true);
+        due("they do not matter", x.triedSteps(all), 26);
+        due("none is stepped", x.next(), NONE);
+        for (int node = 0; node <= all; node++) {
+            due("they stay", x.breakAt(node, false), true);
+        }
         due("run() returns that", x.run(all), 8);
         due("and does it", x.register(2), 8);
         x.run(then(into(1), letters()));
