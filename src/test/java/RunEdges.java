@@ -175,6 +175,9 @@ final class RunEdges extends Edges {
         causes("an error of a while one is closed", ask(gen(last(yielded(ends), inner))), 2, 1);
         x.define(0, 1, inner, NONE);
         causes("through the hook", then(hook(0), insert(1)), 2, 1);
+        int forever = loop(1, ends);
+        causes("BUDGET while an error with a cause is on its way", last(inner, forever), Macroloom.BUDGET, ERROR);
+        causes("BUDGET behind an error with a cause", attempt(0, inner, forever), Macroloom.BUDGET, ERROR);
     }
 
     private static void causes(String what, int node, int outcome, int cause) {
